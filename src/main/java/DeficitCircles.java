@@ -650,14 +650,14 @@ public final class DeficitCircles {
         }
 
         void fillBuckets(int ticks) {
-            for (int which = 0; has(which); which++) {
+            for (int which = 0; which < held && which < MAX_CLASSES; which++) {
                 tokens[which] = Math.min(bucket[which], tokens[which] + fill[which] * ticks);
             }
         }
 
         int takeUnits() {
             int sum = 0;
-            for (int which = 0; has(which); which++) {
+            for (int which = 0; which < held && which < MAX_CLASSES; which++) {
                 sum += units[which];
                 units[which] = 0;
             }
@@ -666,7 +666,7 @@ public final class DeficitCircles {
 
         int heldOf(int itsGroup) {
             int sum = 0;
-            for (int which = 0; has(which); which++) {
+            for (int which = 0; which < held && which < MAX_CLASSES; which++) {
                 if (group[which] == itsGroup) {
                     sum++;
                 }
@@ -676,7 +676,7 @@ public final class DeficitCircles {
 
         int unitsOf(int itsGroup) {
             int sum = 0;
-            for (int which = 0; has(which); which++) {
+            for (int which = 0; which < held && which < MAX_CLASSES; which++) {
                 if (group[which] == itsGroup) {
                     sum += units[which];
                 }
@@ -1000,7 +1000,7 @@ public final class DeficitCircles {
 
         int doneOf(int which) {
             int sum = 0;
-            for (int job = 0; jobs.has(job); job++) {
+            for (int job = 0; job < jobs.held && job < MAX_JOBS; job++) {
                 if (jobs.ofClass[job] == which && stageOf(job) == 2) {
                     sum++;
                 }
@@ -1021,7 +1021,7 @@ public final class DeficitCircles {
         /** The size of the first job that waits of each class; 0 if the class is not busy. */
         private final int[] classNeed = new int[MAX_CLASSES];
 
-        /** What lookAt() told of each group in the latest round. */
+        /** What lookAt() told of each group in the latest round; 0 if it is not busy. */
         private final int[] groupNeed = new int[MAX_GROUPS];
 
         private final boolean[] groupBusy = new boolean[MAX_GROUPS];
@@ -1102,13 +1102,13 @@ public final class DeficitCircles {
         private void skipGroupRounds(State state) {
             Groups groups = state.groups;
             int rounds = MANY_ROUNDS;
-            for (int group = 0; groups.has(group); group++) {
+            for (int group = 0; group < MAX_GROUPS; group++) {
                 if (groupNeed[group] > 0) {
                     rounds = Math.min(rounds, roundsBelow(
                             groupNeed[group], groups.deficit[group], groups.quantum[group]));
                 }
             }
-            for (int group = 0; groups.has(group); group++) {
+            for (int group = 0; group < MAX_GROUPS; group++) {
                 if (groupNeed[group] > 0) {
                     groups.deficit[group] += rounds * groups.quantum[group];
                 }
@@ -1161,14 +1161,14 @@ public final class DeficitCircles {
         private void skipClassRounds(State state, int group) {
             Classes classes = state.classes;
             int rounds = MANY_ROUNDS;
-            for (int which = 0; classes.has(which); which++) {
-                if (classes.group[which] == group && classNeed[which] > 0) {
+            for (int which = 0; which < MAX_CLASSES; which++) {
+                if (classNeed[which] > 0 && classes.group[which] == group) {
                     rounds = Math.min(rounds, roundsBelow(
                             classNeed[which], classes.deficit[which], classes.quantum[which]));
                 }
             }
-            for (int which = 0; classes.has(which); which++) {
-                if (classes.group[which] == group && classNeed[which] > 0) {
+            for (int which = 0; which < MAX_CLASSES; which++) {
+                if (classNeed[which] > 0 && classes.group[which] == group) {
                     classes.deficit[which] += rounds * classes.quantum[which];
                 }
             }

@@ -100,6 +100,15 @@ public final class EdgesOfAnswersTest {
         z.pass(1);
         Edges.due("done", z.classOf(0, 8), 2);
         Edges.due("of the other one", z.classOf(1, 8), 0);
+        DeficitCircles spent = Edges.after(Servers::spent);
+        Edges.due("the first one of the last five", spent.classOf(0, 7), 195);
+        Edges.due("done, of 200", spent.classOf(0, 8), 195);
+        spent.pass(9);
+        Edges.due("the last one of 200 is in service", spent.classOf(0, 8), 199);
+        Edges.due("none waits", spent.classOf(0, 7), NONE);
+        spent.pass(1);
+        Edges.due("all 200 are done", spent.classOf(0, 8), 200);
+        Edges.due("of the last class", spent.classOf(7, 8), 0);
     }
 
     private static void longestWait() {

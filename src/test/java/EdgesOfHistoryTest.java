@@ -224,6 +224,62 @@ public final class EdgesOfHistoryTest {
         Edges.due("the size that is undone to", x.classOf(0, 5), 20);
     }
 
+    /** Jobs of 99 and 50 units of a class and a group whose quanta are 1. */
+    private static DeficitCircles slowTurns() {
+        DeficitCircles x = new DeficitCircles();
+        x.addGroup(1);
+        x.addClass(0, 1, 500, 0);
+        x.add(0, 99);
+        x.add(0, 50);
+        return x;
+    }
+
+    private static void turnsOfThoseThatAreGone() {
+        Edges.sentence("A state is everything but ..: turns are taken without groups that are gone");
+        DeficitCircles x = slowTurns();
+        x.addGroup(1);
+        x.addClass(1, 1, 500, 0);
+        x.add(1, 50);
+        x.pass(1);
+        Edges.due("the turn of the group that will be gone", x.count(5), 2);
+        Edges.due("the deficit of the other one", x.group(0, 1), 100050);
+        for (int left = 3; left >= 0; left--) {
+            Edges.due("undo()", x.undo(), left);
+        }
+        Edges.due("the groups that are left", x.count(1), 1);
+        x.pass(100);
+        Edges.due("the second job, behind 149 rounds", x.count(5), 1);
+        Edges.due("its group is not busy", x.group(0, 1), 100000);
+        DeficitCircles y = slowTurns();
+        y.keep();
+        y.addGroup(200);
+        y.addClass(1, 200, 500, 0);
+        y.add(1, 99);
+        y.add(1, 99);
+        y.pass(1);
+        Edges.due("the turn of the group that will be gone", y.count(5), 2);
+        Edges.due("restore()", y.restore(), 0);
+        y.pass(1);
+        Edges.due("the turn of the first job", y.count(5), 0);
+        Edges.due("99 quanta, all of them taken", y.group(0, 1), 100000);
+        Edges.due("99 quanta of the class", y.classOf(0, 2), 100000);
+        Edges.due("when the second one begins", y.beginsAt(1), 99);
+        Edges.sentence("A state is everything but ..: turns are taken without classes that are gone");
+        DeficitCircles z = slowTurns();
+        z.addClass(0, 1, 500, 0);
+        z.add(1, 50);
+        z.pass(1);
+        Edges.due("the turn of the class that will be gone", z.count(5), 2);
+        Edges.due("the deficit of the other one", z.classOf(0, 2), 100050);
+        for (int left = 3; left >= 1; left--) {
+            Edges.due("undo()", z.undo(), left);
+        }
+        z.pass(1);
+        Edges.due("the turn of the first job", z.count(5), 0);
+        Edges.due("99 quanta, all of them taken", z.classOf(0, 2), 100000);
+        Edges.due("99 quanta of the group", z.group(0, 1), 100000);
+    }
+
     private static void calls() {
         Edges.sentence("An object is used for at most 512 calls after it has been made");
         DeficitCircles x = new DeficitCircles();
@@ -251,6 +307,7 @@ public final class EdgesOfHistoryTest {
         whatAStateIs();
         snapshot();
         bucketsToo();
+        turnsOfThoseThatAreGone();
         calls();
         Due.finish("EdgesOfHistoryTest");
     }

@@ -67,6 +67,26 @@ public final class EdgesOfTextsTest {
         Edges.due("empty then", x.readJobs(), -100);
     }
 
+    private static void whatWasEmptied() {
+        Edges.sentence("clearText: Empties the text: nothing of it is read behind a shorter one");
+        DeficitCircles x = Servers.classes(5);
+        Edges.type(x, "0:19;0:29;0:39");
+        Edges.due("the longer one", x.readJobs(), 3);
+        Edges.type(x, "0:3");
+        Edges.due("the shorter one", x.readJobs(), 1);
+        Edges.due("its size, one digit", x.job(3, 1), 3);
+        Edges.type(x, "0:45;0:7");
+        Edges.due("two jobs", x.readJobs(), 2);
+        Edges.due("the first size, two digits", x.job(4, 1), 45);
+        Edges.due("the last size, one digit", x.job(5, 1), 7);
+        Edges.type(x, "0:19");
+        Edges.type(x, "0:");
+        Edges.due("it ends too early", x.readJobs(), -102);
+        x.clearText();
+        Edges.due("it is empty", x.readJobs(), -100);
+        Edges.due("jobs", x.count(3), 6);
+    }
+
     private static void anyCharacter() {
         Edges.sentence("type: character: any character");
         char[] characters = {0, 1, '\t', '\n', ' ', '"', '0', '9', ';', 127, 128, 255, 256, 0x0663,
@@ -328,6 +348,7 @@ public final class EdgesOfTextsTest {
 
     public static void main(String[] args) {
         lengths();
+        whatWasEmptied();
         anyCharacter();
         oneOrMore();
         oneJob();

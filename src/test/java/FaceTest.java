@@ -104,11 +104,54 @@ public final class FaceTest {
         }
     }
 
+    /** Every loop counts towards a bound that stands in its own head. */
+    private static void checkLoops(String code) {
+        Matcher heads = Pattern.compile("\\b(for|while|do)\\b ?(.*)").matcher(code);
+        while (heads.find()) {
+            String head = heads.group(2);
+            boolean counts = head.matches("\\(int (\\w+) = [^;]+; \\1 < [\\w.]+( && \\1 < [A-Z_]+)?;"
+                    + " \\1\\+\\+\\) \\{")
+                    || head.matches("\\(int (\\w+) = [^;]+; \\1 >= 0; \\1--\\) \\{")
+                    || head.matches("\\((\\w+) < [\\w.]+\\) \\{");
+            due("the end of the loop is seen: " + heads.group(), counts);
+        }
+    }
+
+    /** Static fields are constants, a class has some twenty fields, a method at most seven parameters. */
+    private static void checkMembers(Class<?> type) {
+        int fields = 0;
+        for (Field field : type.getDeclaredFields()) {
+            int modifiers = field.getModifiers();
+            if (Modifier.isStatic(modifiers)) {
+                due(field + " is a constant number", Modifier.isFinal(modifiers)
+                        && field.getType().isPrimitive());
+            } else {
+                fields++;
+            }
+        }
+        due(type + " has at most twenty fields", fields <= 20);
+        for (Method method : type.getDeclaredMethods()) {
+            due(method + " has at most seven parameters", method.getParameterCount() <= 7);
+        }
+    }
+
+    private static void checkShape() {
+        checkMembers(DeficitCircles.class);
+        Class<?>[] inside = DeficitCircles.class.getDeclaredClasses();
+        due("at most twelve classes", inside.length < 12);
+        for (Class<?> type : inside) {
+            checkMembers(type);
+            due(type + " has no classes inside", type.getDeclaredClasses().length == 0);
+        }
+    }
+
     public static void main(String[] args) throws Exception {
         checkFace();
+        checkShape();
         String source = Files.readString(Path.of("src/main/java/DeficitCircles.java"));
         due("only ASCII", source.chars().allMatch(c -> c == '\n' || c >= 32 && c < 127));
         checkWords(withoutComments(source));
+        checkLoops(withoutComments(source));
         checkLengths(source);
         Due.finish("FaceTest");
     }
